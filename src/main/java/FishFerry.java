@@ -966,6 +966,11 @@ public final class FishFerry {
 
     /** The fewest FISH, then the least bits, to be promised a FIELD so that BOAT comes there; NONE: none. */
     private int fewestBy(int field, int c, int n, int room) {
+        water.measureFrom(now.boat);
+        int steps = water.stepsTo(field);
+        if (steps == NONE || steps > n) {
+            return NONE;
+        }
         int able = 0;
         for (int i = 0; i < school.size; i++) {
             able |= canBePromised(i) ? 1 << i : 0;

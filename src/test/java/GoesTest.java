@@ -10,6 +10,7 @@ public final class GoesTest {
         Check.tells("toward the corner", x, x.towed(), "2 [-8, 0, 8, 0]");
         FishFerry y = Check.ferry(OPEN, "t5;t3", "0020;1200");
         Check.tells("right over down", y, y.towed(), "1 [-3, 5, 3, -5]");
+        Check.tells("once more", y, y.towed(), "1 [-3, 5, 3, -5]");
         Check.is("questions change nothing", "" + y.count(3) + y.count(7) + y.count(11), "001");
         FishFerry rock = Check.ferry("22.#..", "t5", "0010");
         Check.tells("a rock", rock, rock.towed(), "-2 [0, 5, 0, -5]");
@@ -116,7 +117,7 @@ public final class GoesTest {
         FishFerry x = Check.ferry(OPEN, "t2;t3;e9;t4", "");
         Check.is("others", "" + x.sends(-1, 0, 1) + x.sends(9, 0, 1) + x.sends(1, -1, 1) + x.sends(1, 10, 1) + x.sends(1, 0, 0)
                 + x.sends(1, 0, 21), "-1-1-1-1-1-1");
-        Check.tells("it is there", x, x.sends(0, 0, 1), "0 [0, 0]");
+        Check.tells("it is there", x, x.sends(0, 9, 1), "0 [0, 0]");
         Check.tells("any one will do, the least", x, x.sends(1, 0, 1), "1 [1, 1]");
         // Only the trout of 4 has PULL yet in the fourth hour.
         Check.tells("far", x, x.sends(8, 0, 4), "1 [8, 4]");
@@ -143,6 +144,15 @@ public final class GoesTest {
         Check.put(late, "00000000000000000009").fog();
         Check.tells("behind the twentieth", late, late.sends(1, 0, 20), "1 [1, 20]");
         Check.is("not behind the nineteenth", late.sends(1, 0, 19), -2);
+        FishFerry eight = Check.ferry("22....", "t1;t1;t1;t1;t1;t1;t1;t1", "");
+        Check.put(eight, "g*0").rule();
+        Check.is("none pulls", eight.sends(1, 0, 20), -2);
+        FishFerry all = Check.ferry("22....", "p7;t1;t1;t1;t1;t1;t1;t1", "0010");
+        Check.put(all, "(k=1)*6+(k=0)").rule();
+        Check.tells("the seven others, or the pike away", all, all.sends(1, 0, 1), "7 [254, 1]");
+        FishFerry up = Check.ferry("22....", "p7;t1;t1;t1;t1;t1;t1;t1", "0100");
+        Check.put(up, "(k=1)+(k=0)").rule();
+        Check.tells("the pike the other way round", up, up.sends(2, 0, 1), "2 [6, 1]");
     }
 
     private static void cheapest() {
@@ -159,6 +169,10 @@ public final class GoesTest {
         Check.tells("of as much the least c", y, y.cheapest(1, 1), "6 [2, 7]");
         Check.is("by none", y.cheapest(8, 3), -2);
         Check.is("a row stays", Check.row(y), "[2, 7]");
+        Check.put(y, "(k=1)*8+(k=0)*(c=9)*9").rule();
+        Check.tells("one of 9", y, y.cheapest(1, 1), "9 [9, 1]");
+        Check.put(y, "(k=1)*(c=0)*8+c").rule();
+        Check.tells("a crumb for the pike, too, that it pulls less", y, y.cheapest(1, 1), "3 [1, 11]");
         Check.put(y, "(k=1)*9").rule();
         Check.is("by none for all crumbs", y.cheapest(1, 20), -2);
     }
@@ -166,7 +180,7 @@ public final class GoesTest {
     private static void matters() {
         FishFerry x = Check.ferry(OPEN, "t9;t3;t4", "");
         Check.is("none such", x.matters(1), -2);
-        Check.is("another n", "" + x.matters(0) + x.matters(61), "-1-1");
+        Check.is("another n", "" + x.matters(0) + x.matters(61) + x.matters(60), "-1-1-2");
         Check.put(x, "0220;1020;2200").oar();
         // All: down, down, right, right to 8. Without 0: down (4 against 3), ..
         x.letsGo(0);
@@ -197,6 +211,8 @@ public final class GoesTest {
         Check.is("none is left", y.count(4), 0);
         Check.put(y, "0110;1113;2110").oar();
         Check.tells("for nothing", y, y.keeps(), "2 [5, 0]");
+        FishFerry z = Check.ferry("22....", "t1;t1;t1;t1;t1", "0119;1119;2111;3112;4119");
+        Check.tells("more of them for more", z, z.keeps(), "3 [13, 8]");
     }
 
     private static void fates() {
@@ -204,6 +220,9 @@ public final class GoesTest {
         Check.is("another n", "" + x.fates(0) + x.fates(100), "-1-1");
         Check.tells("kept, broken, yet", x, x.fates(1), "3 [4, 8]");
         Check.is("nothing changed", "" + x.count(3) + x.count(4) + x.one(2, 3), "0205");
+        Check.tells("the same again", x, x.fates(1), "3 [4, 8]");
+        x.hours(1);
+        Check.tells("later", x, x.fates(1), "0 [0, 8]");
     }
 
     public static void main(String[] args) {

@@ -25,6 +25,11 @@ public final class HoursTest {
         Check.is("TRUST", "" + x.one(0, 3) + x.one(1, 3) + x.one(2, 3), "660");
         Check.is("no PROMISE is left", "" + x.one(0, 5) + x.one(1, 5) + x.one(2, 5), "-1-1-1");
         Check.is("no TRUST", x.promise(2, 0, 0), -4);
+        x.keep(0);
+        x.undo();
+        Check.is("undone", "" + x.count(4) + " " + x.count(5) + x.count(6), "20 00");
+        x.again(0);
+        Check.is("again", "" + x.count(4) + " " + x.count(5) + x.count(6), "2 21");
         x.letsGo(0);
         x.promise(0, 0, 0);
         Check.tells("one who does not HOLD is kept its PROMISE", x, x.hours(1), "0 [1, 0, 1]");
@@ -107,6 +112,9 @@ public final class HoursTest {
         Check.is("as many as can be", x.buys(79), 99);
         Check.is("one more", x.buys(1), -3);
         Check.is("one was done", x.count(11), 1);
+        FishFerry empty = Check.ferry("22....", "t1;t1;t1", "0009;1009;2002");
+        empty.hours(1);
+        Check.is("99 at once", empty.buys(99), 99);
     }
 
     private static void dayFaults() {
@@ -127,7 +135,7 @@ public final class HoursTest {
 
     private static void days() {
         FishFerry x = Check.ferry("33.........", "t5;e5", "");
-        Check.tells("a day", x, Check.put(x, "b9p0024n2l1l1").day(), "5 [0, 2]");
+        Check.tells("a day", x, Check.put(x, "b1b8p0024n2l1l1").day(), "6 [0, 2]");
         Check.is("STORE, KEPT, HOUR", x.count(4) + " " + x.count(5) + x.count(7), "25 12");
         Check.is("as one", x.count(11), 1);
         Check.tells("nothing", x, Check.put(x, "").day(), "0 [0, 2]");

@@ -62,7 +62,7 @@ public final class LakeTest {
     }
 
     private static void lakeAnew() {
-        FishFerry x = Check.ferry("33.........", "t5;p5", "0022;1111");
+        FishFerry x = Check.ferry("33.........", "t5;s5", "0022;1111");
         Check.put(x, "57").fog();
         x.hours(3);
         x.buys(7);
@@ -70,6 +70,7 @@ public final class LakeTest {
         x.seen(1, 1, 1);
         int store = x.count(4);
         int kept = x.count(5);
+        Check.is("BOAT is away, a fish is tired", x.count(3) > 0 && x.one(1, 2) > 0, true);
         Check.is("refused", Check.put(x, "33........").lake(), -11);
         Check.is("nothing changed", "" + x.count(2) + x.count(7) + x.count(10) + x.count(11), "2313");
         Check.is("lake anew", Check.put(x, "22....").lake(), 4);
@@ -79,6 +80,8 @@ public final class LakeTest {
                 "0 0 " + store + " " + kept + " 0 0 5 0 0 0");
         Check.is("nothing is kept", x.again(0), false);
         Check.is("nothing to undo", x.undo(), -1);
+        Check.put(x, "t1;t1").fish();
+        Check.is("new fish are as at first", "" + x.one(1, 2) + x.one(1, 3) + x.one(1, 4) + x.one(1, 5), "051-1");
     }
 
     private static void fish() {
@@ -98,6 +101,7 @@ public final class LakeTest {
             Check.is("its text is gone", x.count(13), 0);
         }
         Check.is("four more", Check.put(x, "t1;t1;t1;t1").fish(), 4);
+        Check.is("its text is gone", x.count(13), 0);
         Check.is("no room", Check.put(x, "t1").fish(), -1);
         Check.is("nothing", Check.put(x, "").fish(), 0);
         Check.is("eight at once", Check.put(fresh(), EIGHT).fish(), 8);
@@ -131,6 +135,7 @@ public final class LakeTest {
             Check.is("nothing to undo", x.count(11), 0);
         }
         Check.is("oar", Check.put(x, "0127;2003;0018").oar(), 3);
+        Check.is("its text is gone", x.count(13), 0);
         Check.is("the later ones", "" + x.one(0, 5) + x.one(0, 6) + x.one(2, 5) + x.one(2, 6), "1803");
         Check.is("to be undone", x.count(11), 1);
         Check.is("another oar", Check.put(x, "2111").oar(), 1);
@@ -148,6 +153,16 @@ public final class LakeTest {
         x.promise(0, 0, 0);
         Check.is("TRUST 0", x.takesBack(0), 0);
         Check.is("no TRUST", Check.put(x, "2000;0000").oar(), -6);
+        FishFerry wary = Check.ferry("22....", "t1", "0000");
+        wary.takesBack(0);
+        wary.promise(0, 0, 0);
+        wary.hours(1);
+        wary.promise(0, 0, 0);
+        wary.hours(1);
+        wary.promise(0, 0, 0);
+        Check.is("TRUST 1", wary.takesBack(0), 1);
+        Check.is("TRUST 1 is enough", Check.put(wary, "0010").oar(), 1);
+        Check.is("TRUST 1 is enough", wary.sends(2, 0, 1), 1);
         FishFerry rock = Check.ferry("22...#", "t1", "");
         Check.is("a rock as GOAL", Check.put(rock, "0110").oar(), 1);
     }
@@ -160,7 +175,11 @@ public final class LakeTest {
         for (int i = 0; i < bad.length; i++) {
             Check.is("fog " + bad[i], Check.put(x, bad[i]).fog(), -1 - place[i]);
             Check.is("FOG stays", x.count(8), 9);
+            Check.is("its text is gone", x.count(13), 0);
         }
+        x.hours(1);
+        Check.is("one digit for all HOURS", x.count(8), 9);
+        x.undo();
         Check.is("fog", Check.put(x, "507").fog(), 3);
         StringBuilder seen = new StringBuilder();
         for (int i = 0; i < 5; i++) {
@@ -181,7 +200,9 @@ public final class LakeTest {
         for (int i = 0; i < bad.length; i++) {
             Check.is("rule " + bad[i], Check.put(x, bad[i]).rule(), -1 - place[i]);
             Check.is("THE RULE stays", x.one(0, 7), 7);
+            Check.is("its text is gone", x.count(13), 0);
             Check.is("law " + bad[i], Check.put(x, bad[i]).law(), -10000 - place[i]);
+            Check.is("its text is gone", x.count(13), 0);
         }
         Check.is("40 signs", Check.put(x, "-".repeat(38) + "12").rule(), 0);
         Check.is("40 signs with an open end", Check.put(x, "1+".repeat(20)).rule(), -41);
@@ -190,7 +211,12 @@ public final class LakeTest {
         Check.is("41 signs, a fault ahead", Check.put(x, "1+".repeat(19) + "+111").rule(), -39);
         Check.is("41 signs, the last one wrong", Check.put(x, "1+".repeat(19) + "11z").rule(), -41);
         Check.is("an empty one", Check.put(x, "").rule(), 0);
+        Check.is("its text is gone", x.count(13), 0);
         Check.is("none: s-d+(c>u)", x.one(0, 7), 5);
+        x.promise(0, 2, 6);
+        Check.is("none: 6 crumbs are more than TRUST", x.one(0, 7), 6);
+        x.promise(0, 2, 5);
+        Check.is("none: 5 are not", x.one(0, 7), 5);
     }
 
     private static void ruleValues() {
@@ -198,10 +224,10 @@ public final class LakeTest {
         Check.put(x, "4444444").fog();
         String[] rules = {"7-2-1", "8/2/2", "7/0+3", "-7/2+9", "--5", "---5+9", "2+3*2", "(2+3)*1", "1<2+3", "1+1=2", "3>4", "-5", "99",
             "s", "d", "c", "u", "f", "n", "k", "g", "(1<2)<3", "1<(2<3)", "((((6))))", "2*-3+9", "9-2*3", "6/4*2", "007", "1=1*5", "0-9<0",
-            "999*999*999*999", "-999*999*999*999", "5-(1>0)", "s-d+(c>u)", "s--d", "g=5", "0/5+1"};
+            "999*999*999*999", "-999*999*999*999", "5-(1>0)", "s-d+(c>u)", "s--d", "g=5", "0/5+1", "6*3/4", "9/2*3-8", "0-2*3+8"};
         int[] due = {4, 2, 3, 6, 5, 4, 8, 5, 1, 1, 0, 0, 9,
             5, 0, 6, 5, 4, 0, 3, 5, 1, 0, 6, 3, 3, 2, 7, 0, 1,
-            0, 9, 4, 6, 5, 1, 1};
+            0, 9, 4, 6, 5, 1, 1, 4, 4, 2};
         for (int i = 0; i < rules.length; i++) {
             Check.is("rule " + rules[i], Check.put(x, rules[i]).rule(), 0);
             Check.is("PULL by " + rules[i], x.one(0, 7), due[i]);
@@ -256,6 +282,8 @@ public final class LakeTest {
         FishFerry x = Check.ferry("23.#....", "t5;s3", "0124;1127");
         Check.is("all of fish 0", "" + x.one(0, 0) + x.one(0, 1) + x.one(0, 2) + x.one(0, 3) + x.one(0, 4) + x.one(0, 5)
                 + x.one(0, 6) + x.one(0, 7) + x.one(0, 8), "050515451");
+        x.letsGo(1);
+        Check.is("HOLDING", "" + x.one(0, 4) + x.one(1, 4), "10");
         Check.is("none such", "" + Check.throwsOnOne(x, -1, 0) + Check.throwsOnOne(x, 2, 0) + Check.throwsOnOne(x, 0, -1)
                 + Check.throwsOnOne(x, 0, 9), "truetruetruetrue");
         Check.is("field", "" + x.field(1, 0) + x.field(0, 0) + x.field(0, 1) + x.field(5, 1) + x.field(5, 2) + x.field(0, 2), "101030");

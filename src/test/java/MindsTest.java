@@ -12,11 +12,18 @@ public final class MindsTest {
         Check.tells("who let go, too", x, x.minds(), "11 [3, 2]");
         FishFerry y = Check.ferry(OPEN, "t1", "");
         Check.tells("no PROMISE", y, y.minds(), "0 [0, 0]");
+        FishFerry away = Check.ferry(OPEN, "t9;t1;s1;s1", "0220;1200;2010");
+        away.hours(3);
+        away.letsGo(0);
+        Check.is("BOAT", away.count(3), 7);
+        Check.put(away, "1200;2120;3100").oar();
+        Check.tells("from there", away, away.minds(), "12 [2, 12]");
     }
 
     private static void evens() {
         FishFerry x = Check.ferry(OPEN, "t5;t3;t6", "0220;1220;2220");
         Check.tells("5 and 3 against 6", x, x.evens(), "2 [3, 8]");
+        Check.tells("once more", x, x.evens(), "2 [3, 8]");
         FishFerry y = Check.ferry(OPEN, "t4;t4;e9;t9", "0220;1220");
         Check.tells("who pulls alone", y, y.evens(), "0 [1, 4]");
         FishFerry one = Check.ferry(OPEN, "t1;t7", "1220");
@@ -99,6 +106,14 @@ public final class MindsTest {
         Check.is("a row stays", Check.row(x), "[1]");
         FishFerry y = Check.ferry(OPEN, "t4;t4;t9", "");
         Check.tells("nobody pulls", y, y.looks(), "0 [3]");
+        FishFerry late = Check.ferry("22....", "t9;t9", "0010");
+        Check.put(late, "f").rule();
+        Check.put(late, "00000000000000000009").fog();
+        Check.tells("in the twentieth", late, late.looks(), "20 [1]");
+        late.seen(20, 1, 1);
+        Check.tells("seen there", late, late.fits(), "2 [1, 1]");
+        FishFerry eight = Check.ferry("22....", "t1;t1;t1;t1;t1;t1;t1;t1", "");
+        Check.tells("eight alike", eight, eight.looks(), "0 [8]");
         Check.is("seen from now on", y.seen(0, 0, 1), 1);
         y.promise(0, 1, 0);
         y.hours(1);

@@ -144,8 +144,13 @@ public final class WaysTest {
         Check.is("nothing told", none.count(12), 0);
         Check.tells("no FISH", none, none.years(7, 60), "0 [0, 0]");
         Check.is("no HOUR passed", none.count(7), 0);
+        FishFerry one = Check.ferry(OPEN, "t5", "0110");
+        Check.is("one fish", one.years(3, 60) + " " + Check.row(one), byHand(one, 3, 60));
         for (int seed = -40; seed < 40; seed++) {
             FishFerry x = Check.ferry(OPEN, "t5;p4;e3;s6", "0220;3116");
+            x.promise(1, 0, 1);
+            x.hours(1);
+            x.promise(1, 3, 1);
             String before = Check.state(x);
             int n = 1 + (seed + 40) % 60;
             int got = x.years(seed * 77777777, n);
