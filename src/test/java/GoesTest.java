@@ -147,6 +147,9 @@ public final class GoesTest {
         FishFerry eight = Check.ferry("22....", "t1;t1;t1;t1;t1;t1;t1;t1", "");
         Check.put(eight, "g*0").rule();
         Check.is("none pulls", eight.sends(1, 0, 20), -2);
+        Check.put(eight, "c").rule();
+        Check.put(eight, "0109;1109;2109;3109;4109;5109;6109;7109").oar();
+        Check.tells("all eight: one of 9 is more than seven of 1", eight, eight.sends(1, 1, 1), "8 [255, 1]");
         FishFerry all = Check.ferry("22....", "p7;t1;t1;t1;t1;t1;t1;t1", "0010");
         Check.put(all, "(k=1)*6+(k=0)").rule();
         Check.tells("the seven others, or the pike away", all, all.sends(1, 0, 1), "7 [254, 1]");
@@ -171,6 +174,8 @@ public final class GoesTest {
         Check.is("a row stays", Check.row(y), "[2, 7]");
         Check.put(y, "(k=1)*8+(k=0)*(c=9)*9").rule();
         Check.tells("one of 9", y, y.cheapest(1, 1), "9 [9, 1]");
+        Check.put(y, "(k=1)*2+(k=0)*((c>2)*9+(c=2)*2)").rule();
+        Check.tells("one of 3 is less than two of 2", y, y.cheapest(1, 1), "3 [3, 1]");
         Check.put(y, "(k=1)*(c=0)*8+c").rule();
         Check.tells("a crumb for the pike, too, that it pulls less", y, y.cheapest(1, 1), "3 [1, 11]");
         Check.put(y, "(k=1)*9").rule();

@@ -7,6 +7,11 @@ public final class KeptTest {
         return Check.ferry("33.........", "t5;s4", "0022;1211");
     }
 
+    private static void nothingKept() {
+        FishFerry x = new FishFerry();
+        Check.is("nothing kept at first", "" + x.again(0) + x.again(1) + x.again(2), "falsefalsefalse");
+    }
+
     private static void keepAndAgain() {
         FishFerry x = ferry();
         Check.is("keep", "" + x.keep(-1) + x.keep(3), "falsefalse");
@@ -115,6 +120,7 @@ public final class KeptTest {
     }
 
     public static void main(String[] args) {
+        nothingKept();
         keepAndAgain();
         whatIsNotKept();
         counts();

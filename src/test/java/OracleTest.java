@@ -27,7 +27,7 @@ public final class OracleTest {
         if (luck == 1) {
             return to + 1;
         }
-        if (luck == 2 && below(8) == 0) {
+        if (luck == 2 && below(3) == 0) {
             return new int[] {Integer.MIN_VALUE, Integer.MAX_VALUE, random.nextInt()}[below(3)];
         }
         return from + below(to - from + 1);

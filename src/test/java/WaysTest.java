@@ -146,6 +146,9 @@ public final class WaysTest {
         Check.is("no HOUR passed", none.count(7), 0);
         FishFerry one = Check.ferry(OPEN, "t5", "0110");
         Check.is("one fish", one.years(3, 60) + " " + Check.row(one), byHand(one, 3, 60));
+        FishFerry broken = Check.ferry(OPEN, "t5;t5;t5", "0009;1009;2009");
+        broken.hours(1);
+        Check.is("more than 2 kept, 1 broken", broken.years(9, 60) + " " + Check.row(broken), byHand(broken, 9, 60));
         for (int seed = -40; seed < 40; seed++) {
             FishFerry x = Check.ferry(OPEN, "t5;p4;e3;s6", "0220;3116");
             x.promise(1, 0, 1);
