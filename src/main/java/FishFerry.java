@@ -1436,7 +1436,7 @@ public final class FishFerry {
         private static final int[] MASKS = {15, 15, 15, 15, 15, 7, 3, 15};
         private static final int CRUMBS_LETTER = 2;
         /** PULLS that were reckoned are noted: the searches ask for the same ones over and over. */
-        private static final int NOTES_BITS = 11;
+        private static final int NOTES_BITS = 10;
 
         private final int[] code = new int[MOST];
         private int size = 0;
