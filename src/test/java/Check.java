@@ -97,6 +97,33 @@ final class Check {
         }
     }
 
+    /** Some of count()'s numbers, with a space between. */
+    static String counts(FishFerry x, int... whats) {
+        StringBuilder all = new StringBuilder();
+        for (int what : whats) {
+            all.append(all.length() > 0 ? " " : "").append(x.count(what));
+        }
+        return all.toString();
+    }
+
+    /** Some of one()'s numbers of a FISH, with a space between. */
+    static String ones(FishFerry x, int fish, int... whats) {
+        StringBuilder all = new StringBuilder();
+        for (int what : whats) {
+            all.append(all.length() > 0 ? " " : "").append(x.one(fish, what));
+        }
+        return all.toString();
+    }
+
+    /** One of one()'s numbers of each FISH, with a space between. */
+    static String each(FishFerry x, int what) {
+        StringBuilder all = new StringBuilder();
+        for (int fish = 0; fish < x.count(2); fish++) {
+            all.append(fish > 0 ? " " : "").append(x.one(fish, what));
+        }
+        return all.toString();
+    }
+
     static void finish() {
         System.out.println(checks + " checks, " + wrong + " wrong");
         System.exit(wrong == 0 && checks > 0 ? 0 : 1);
