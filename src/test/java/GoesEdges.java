@@ -212,6 +212,10 @@ final class GoesEdges {
         Check.put(all, "c").rule();
         Says.tells("all eight", all, all.sends(1, 1, 1), "8 [255, 1]");
 
+        FishFerry walls = Check.ferry("33..###....", "t9", "");
+        walls.way(8, 8);
+        Says.tells("whatever way was asked for ahead", walls, walls.sends(1, 0, 1), "1 [1, 1]");
+
         Says.of(24, "-2: by none");
         Says.is("too far", x.sends(8, 0, 3), -2);
         Says.is("a rock", Check.ferry("22.#..", "t9", "").sends(1, 0, 20), -2);
@@ -235,6 +239,11 @@ final class GoesEdges {
         Check.put(x, "(k=1)*8+(k=0)*(c=9)*3").rule();
         Says.tells("three of 9", x, x.cheapest(1, 1), "27 [9, 7]");
         Says.is("it comes so", Check.ferry(OPEN, "t5", "0019").cheapest(1, 1), 0);
+        FishFerry crumbs = Check.ferry(OPEN, "t5", "");
+        Check.put(crumbs, "c").rule();
+        Says.tells("one for one crumb", crumbs, crumbs.cheapest(1, 1), "1 [1, 1]");
+        Check.put(crumbs, "c>3").rule();
+        Says.tells("one for four", crumbs, crumbs.cheapest(1, 1), "4 [4, 1]");
 
         Says.of(25, "the ROW: c, they (bits: of as much the least c, then the fewest, then the least bits).");
         Check.put(x, "(k=1)*5+(k=0)*c").rule();
@@ -318,6 +327,8 @@ final class GoesEdges {
         Says.of(27, "the ROW: FISH (bits: of as many those with the fewest CRUMBS together, then the least bits), what is left of STORE.");
         FishFerry y = Check.ferry("22....", "t1;t1;t1;t1;t1", "");
         Says.tells("none", y, y.keeps(), "0 [0, 20]");
+        FishFerry first = Check.ferry("22....", "t1;t1", "0114");
+        Says.tells("the first alone", first, first.keeps(), "1 [1, 16]");
         Check.put(y, "0119;1117;2117;3117").oar();
         Says.tells("7 and 7, the least bits", y, y.keeps(), "2 [6, 6]");
         Check.put(y, "1116").oar();
@@ -363,6 +374,8 @@ final class GoesEdges {
         Says.of(29, "the ROW: those whose PROMISE is broken (bits), those who have it yet (bits).");
         Says.tells("in one HOUR", y, y.fates(1), "3 [4, 24]");
         Says.tells("in two", y, y.fates(2), "11 [4, 16]");
+        y.hours(1);
+        Says.tells("what was broken ahead is not told", y, y.fates(1), "8 [0, 16]");
         Says.tells("98 HOURS", x, x.fates(98), "0 [0, 1]");
         Says.tells("99 HOURS", x, x.fates(99), "1 [0, 0]");
         FishFerry none = new FishFerry();

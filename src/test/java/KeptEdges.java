@@ -55,6 +55,8 @@ final class KeptEdges {
         Says.is("undoing leaves it", x.again(2) + " " + held(x), "true " + were);
 
         Says.of(46, "Refused: nothing kept, THE LAKE or FISH came since.");
+        FishFerry first = new FishFerry();
+        Says.is("nothing kept at first", "" + first.again(0) + first.again(1) + first.again(2), "falsefalsefalse");
         Says.is("nothing kept", "" + x.again(0) + x.again(1) + x.again(-1) + x.again(3), "falsefalsefalsefalse");
         Check.put(x, "t0").fish();
         Check.put(x, "").fish();

@@ -263,6 +263,8 @@ final class LakeEdges {
         x.promise(0, 1, 6);
         Says.is("more crumbs than TRUST by s-d+(c>u)", x.one(0, 7), 6);
 
+        rulesInTurn();
+
         Says.of(8, "-1 - p: the sign at p can't stand there (its end, if it ends too early");
         Says.are("[-2, -3, -3, -2, -4, -5]", rule("-"), rule("s+"), rule("(s"), rule("("), rule("s*("), rule("(s+("));
         Says.are("[-1, -2, -3, -4, -5]", rule("q"), rule("s)"), rule("s+)"), rule("100s"), rule("((((("));
@@ -274,6 +276,17 @@ final class LakeEdges {
         Says.are("[0, -41, -41, -41]", rule(forty), rule(forty + "0"), rule(forty + "x"), rule(forty + "+s"));
         Says.are("[-41, -41, -41]", rule("s+".repeat(20) + "s"), rule("s+".repeat(20) + ")"), rule("-".repeat(80)));
         Says.are("[-39, -39, -1]", rule("s+".repeat(19) + ")0"), rule("s+".repeat(19) + "+ss"), rule("x".repeat(80)));
+    }
+
+    /** One text leaves nothing behind in the next, refused or not. */
+    private static void rulesInTurn() {
+        FishFerry x = Check.ferry("22....", "t5", "0010");
+        String[] texts = {"1<2", "1<2", "1=1", "(1<2", "3>2", "-", "7", "((((", "(((6)))", "9*", "4", "12", "3", "8-", "5+3<9", "1<2<3", "2"};
+        int[] pulls = {1, 1, 1, 1, 1, 1, 7, 7, 6, 6, 4, 9, 3, 3, 1, 1, 2};
+        for (int i = 0; i < texts.length; i++) {
+            Check.put(x, texts[i]).rule();
+            Says.is(texts[i] + " behind others", x.one(0, 7), pulls[i]);
+        }
     }
 
     private static void ones() {

@@ -49,6 +49,8 @@ final class MindsEdges {
         Says.tells("not who has PULL 0", some, some.evens(), "0 [2, 4]");
         FishFerry x = ferry("536");
         Says.tells("5 and 3", x, x.evens(), "2 [3, 8]");
+        FishFerry two = ferry("99");
+        Says.tells("the first of two", two, two.evens(), "0 [1, 9]");
         FishFerry one = ferry("7");
         Says.tells("one: none is the least part", one, one.evens(), "7 [0, 0]");
         FishFerry none = new FishFerry();
@@ -212,6 +214,10 @@ final class MindsEdges {
         FishFerry y = suspects();
         Says.tells("one", y, y.looks(), "4 [1]");
         Says.tells("both", like, like.looks(), "0 [2]");
+        FishFerry alone = Check.ferry(OPEN, "t5", "0010");
+        Says.tells("the first alone", alone, alone.looks(), "0 [1]");
+        FishFerry eight = Check.ferry(OPEN, "e1;e1;e1;e1;e1;e1;e1;e1", "");
+        Says.tells("all eight", eight, eight.looks(), "0 [8]");
         y.letsGo(3);
         Says.tells("a fourth", y, y.looks(), fourth());
 

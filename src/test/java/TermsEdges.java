@@ -311,7 +311,9 @@ final class TermsEdges {
         tired.hours(1);
         Says.is("9 at most", Check.each(tired, 2), "9 0");
         tired.letsGo(0);
-        tired.hours(9);
+        tired.hours(1);
+        Says.is("1 less", Check.each(tired, 2), "8 0");
+        tired.hours(8);
         Says.is("as many less", Check.each(tired, 2), "0 0");
         tired.hours(1);
         Says.is("0 at least", Check.each(tired, 2), "0 0");
@@ -376,6 +378,7 @@ final class TermsEdges {
         x.farthest();
         x.forget();
         Says.is(Check.row(x), "[2, 0]");
+        rowsAnew();
 
         Says.of(0, "Sets (of FISH, FIELDS) are bits.");
         FishFerry big = Check.ferry("66" + ".".repeat(36), EIGHT, "7550");
@@ -394,6 +397,49 @@ final class TermsEdges {
         Says.tells("10 by 10", x, x.drifts(1, 0), "0 [1, 1]");
         Says.tells("0 by 10", x, x.drifts(1, 10), "0 [0, 1]");
         Says.tells("3 by 10", x, x.drifts(4, 3), "0 [3, 10]");
+    }
+
+    /** What was told ahead of a call leaves nothing in its ROW. */
+    private static void rowsAnew() {
+        FishFerry x = rich();
+        for (int call = 0; call < 24; call++) {
+            tell(x, call);
+            String once = Check.row(x).toString();
+            x.way(0, 11);
+            x.towed();
+            tell(x, call);
+            Says.is("call " + call + " twice", Check.row(x), once);
+        }
+    }
+
+    /** One of the calls that tell a ROW and leave all as it is. */
+    private static void tell(FishFerry x, int call) {
+        switch (call) {
+            case 0: x.hours(0); break;
+            case 1: Check.put(x, "").day(); break;
+            case 2: x.towed(); break;
+            case 3: x.ahead(3); break;
+            case 4: x.comes(x.count(3)); break;
+            case 5: x.sticks(); break;
+            case 6: x.track(3); break;
+            case 7: x.sends(x.count(3), 0, 1); break;
+            case 8: x.cheapest(x.count(3), 1); break;
+            case 9: x.matters(1); break;
+            case 10: x.keeps(); break;
+            case 11: x.owed(); break;
+            case 12: x.fates(5); break;
+            case 13: x.minds(); break;
+            case 14: x.evens(); break;
+            case 15: x.strongest(); break;
+            case 16: x.sways(0); break;
+            case 17: x.fits(); break;
+            case 18: x.looks(); break;
+            case 19: x.farthest(); break;
+            case 20: x.drifts(4, 5); break;
+            case 21: x.game(5, 2); break;
+            case 22: x.rests(4); break;
+            default: x.years(1, 5); break;
+        }
     }
 
     /** A ferry with something in all that a call could change. */

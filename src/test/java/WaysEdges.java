@@ -241,6 +241,11 @@ final class WaysEdges {
             some.takesBack(4);
             Says.is("an eel and one without TRUST among them, seed " + seed, told(some, seed, 40), byActs(some, seed, 40));
         }
+        for (int seed = 0; seed < 60; seed++) {
+            FishFerry empty = Check.ferry(OPEN, "t9;t9;s9", "0009;1009;2002");
+            empty.hours(1);
+            Says.is("crumbs out of an empty STORE, seed " + seed, told(empty, seed, 60), byActs(empty, seed, 60));
+        }
         Says.of(44, "3: a DRAW of FISH tells one that lets go or takes HOLD (2, 3: no DRAWS without FISH): the FIELD where BOAT is then");
         for (int seed = -30; seed < 30; seed++) {
             FishFerry some = Check.ferry(OPEN, "t9;t8", "0220;1020");
